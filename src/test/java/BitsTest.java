@@ -9,6 +9,7 @@ public final class BitsTest {
         bitsOfFreeDots();
         pairsInOrder();
         pairsHangOnTheNet();
+        pairsHangOnPace();
         pairsOfUnlikeNights();
         tooManyBits();
         wrongInputs();
@@ -115,6 +116,16 @@ public final class BitsTest {
         sky.net(1, 22);
         sky.pace(1);
         due.is("PACE 1", sky.pairs(), 1);
+    }
+
+    private static void pairsHangOnPace() {
+        NightDots sky = Skies.wanderer();
+        due.is("PACE 10", sky.pairs(), 1);
+        sky.pace(4);
+        due.is("PACE 4: no BITS", sky.pairs(), 0);
+        due.is("PACE 4: pair(0, 0)", sky.pair(0, 0), NightDots.NONE);
+        sky.pace(5);
+        due.is("PACE 5", sky.pairs(), 1);
     }
 
     private static void pairsOfUnlikeNights() {

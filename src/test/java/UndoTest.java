@@ -11,6 +11,7 @@ public final class UndoTest {
         thirtyAreKept();
         whatEndsIt();
         goneForGood();
+        anotherInItsStead();
         count();
         due.end();
     }
@@ -120,6 +121,25 @@ public final class UndoTest {
         due.is("undo single", sky.undo(), 1);
         due.is("GONE for good", sky.path(2, 3), 1);
         due.is("single again", sky.single(4, 9), 3);
+    }
+
+    /** What was known of an act that was taken back does not cling to the one that comes in its stead. */
+    private static void anotherInItsStead() {
+        NightDots sky = Skies.wanderer();
+        sky.single(0, 1);
+        sky.single(1, 2);
+        sky.undo();
+        due.is("join", sky.join(0, 1), 2);
+        due.is("undo join", sky.undo(), 1);
+        due.is("the PATH is there still", sky.path(0, 3), 0);
+        due.is("with its one DOT", sky.path(0, 1), 1);
+        sky.single(1, 3);
+        sky.merge(0, 2);
+        sky.undo();
+        due.is("join", sky.join(2, 2), 2);
+        due.is("undo join", sky.undo(), 2);
+        due.is("DOTS of PATH 0", sky.path(0, 1), 1);
+        due.is("DOTS of PATH 2", sky.path(2, 1), 1);
     }
 
     private static void count() {
