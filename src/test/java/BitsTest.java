@@ -8,6 +8,7 @@ public final class BitsTest {
         bitsInOrder();
         bitsOfFreeDots();
         pairsInOrder();
+        pairsOfMixedNights();
         pairsHangOnTheNet();
         pairsHangOnPace();
         pairsOfUnlikeNights();
@@ -17,7 +18,7 @@ public final class BitsTest {
     }
 
     private static void bitsByPace() {
-        NightDots sky = new NightDots();
+        Sky sky = new Sky();
         sky.dot(1, 0, 0, 0);
         sky.dot(3, 20, -20, 0);
         due.is("just within PACE", sky.bits(), 1);
@@ -25,7 +26,7 @@ public final class BitsTest {
         due.is("PACE too small", sky.bits(), 0);
         sky.pace(20);
         due.is("PACE great", sky.bits(), 1);
-        NightDots far = new NightDots();
+        Sky far = new Sky();
         far.dot(1, 0, 0, 0);
         far.dot(3, 21, 0, 0);
         far.dot(3, 0, -21, 0);
@@ -35,7 +36,7 @@ public final class BitsTest {
     }
 
     private static void bitsOfOneNight() {
-        NightDots sky = new NightDots();
+        Sky sky = new Sky();
         sky.dot(23, 0, 0, 0);
         sky.dot(24, 0, 0, 0);
         due.is("of unlike NIGHTS", sky.bits(), 0);
@@ -46,7 +47,7 @@ public final class BitsTest {
     }
 
     private static void bitsInOrder() {
-        NightDots sky = new NightDots();
+        Sky sky = new Sky();
         sky.dot(5, 0, 0, 0);
         sky.dot(3, 0, 0, 0);
         sky.dot(7, 0, 0, 0);
@@ -61,7 +62,7 @@ public final class BitsTest {
     }
 
     private static void bitsOfFreeDots() {
-        NightDots sky = Skies.wanderer();
+        Sky sky = Skies.wanderer();
         due.is("all FREE", sky.bits(), 2);
         sky.single(0, 1);
         due.is("DOT 0 in a PATH", sky.bits(), 1);
@@ -74,8 +75,8 @@ public final class BitsTest {
     }
 
     /** Two BITS on each of three NIGHTS, all at rest. */
-    private static NightDots threeNights() {
-        NightDots sky = new NightDots();
+    private static Sky threeNights() {
+        Sky sky = new Sky();
         for (int night = 2; night >= 0; night--) {
             sky.dot(24 * night, 0, 0, 0);
             sky.dot(24 * night + 1, 0, 0, 0);
@@ -84,7 +85,7 @@ public final class BitsTest {
     }
 
     private static void pairsInOrder() {
-        NightDots sky = threeNights();
+        Sky sky = threeNights();
         due.is("pairs()", sky.pairs(), 3);
         int[][] want = {{0, 1}, {0, 2}, {1, 2}};
         for (int i = 0; i < want.length; i++) {
@@ -99,9 +100,32 @@ public final class BitsTest {
         due.is("pairs() after two more", sky.pairs(), 1);
     }
 
+    /** The BITS 0 and 2 are of one NIGHT, 1 and 3 of another one. */
+    private static void pairsOfMixedNights() {
+        Sky sky = new Sky();
+        int[] places = {0, 0, 200, 200};
+        for (int hour = 0; hour < 2; hour++) {
+            for (int i = 0; i < 4; i++) {
+                sky.dot(24 * (i % 2) + hour, places[i], 0, 0);
+            }
+        }
+        due.is("bits()", sky.bits(), 4);
+        int[][] want = {{0, 1}, {0, 3}, {1, 2}, {2, 3}};
+        due.is("pairs()", sky.pairs(), want.length);
+        for (int i = 0; i < want.length; i++) {
+            due.is("pair(" + i + ", 0)", sky.pair(i, 0), want[i][0]);
+            due.is("pair(" + i + ", 1)", sky.pair(i, 1), want[i][1]);
+        }
+        due.is("start(2, 0)", sky.start(2, 0), 0);
+        int[] row = {1, 5, 2, 6};
+        for (int i = 0; i < row.length; i++) {
+            due.is("DOT " + i, sky.path(0, 10 + i), row[i]);
+        }
+    }
+
     /** At speed 20, the fastest, the starts 0, -20, 23 and 3 would be met: one within END 22 of all. */
     private static void pairsHangOnTheNet() {
-        NightDots sky = new NightDots();
+        Sky sky = new Sky();
         sky.dot(0, 0, 0, 0);
         sky.dot(1, 0, 0, 0);
         sky.dot(24, 503, 0, 0);
@@ -119,7 +143,7 @@ public final class BitsTest {
     }
 
     private static void pairsHangOnPace() {
-        NightDots sky = Skies.wanderer();
+        Sky sky = Skies.wanderer();
         due.is("PACE 10", sky.pairs(), 1);
         sky.pace(4);
         due.is("PACE 4: no BITS", sky.pairs(), 0);
@@ -129,7 +153,7 @@ public final class BitsTest {
     }
 
     private static void pairsOfUnlikeNights() {
-        NightDots sky = new NightDots();
+        Sky sky = new Sky();
         for (int hour = 0; hour < 4; hour++) {
             sky.dot(hour, 0, 0, 0);
         }
@@ -138,8 +162,8 @@ public final class BitsTest {
     }
 
     /** DOTS in a line at each of the HOURS 0 and 1, and one BIT on the next NIGHT. */
-    private static NightDots crowd(int first, int second) {
-        NightDots sky = new NightDots();
+    private static Sky crowd(int first, int second) {
+        Sky sky = new Sky();
         for (int i = 0; i < first; i++) {
             sky.dot(0, i, 0, 0);
         }
@@ -152,9 +176,9 @@ public final class BitsTest {
     }
 
     private static void tooManyBits() {
-        NightDots sky = crowd(3, 13);
+        Sky sky = crowd(3, 13);
         due.is("crowd bits()", sky.bits(), 37);
-        NightDots most = crowd(3, 13);
+        Sky most = crowd(3, 13);
         most.dot(26, 500, 0, 0);
         most.dot(27, 500, 0, 0);
         most.dot(28, 500, 0, 0);
@@ -170,7 +194,7 @@ public final class BitsTest {
         due.is("start(0, 0) of 41", most.start(0, 0), NightDots.NONE);
         most.single(0, 0);
         due.isTrue("pairs() with one FREE DOT less", most.pairs() > 0);
-        NightDots all = crowd(29, 29);
+        Sky all = crowd(29, 29);
         due.is("bits() of 60 DOTS", all.bits(), 1 + countNear(29));
         due.is("the last of them", all.bit(all.bits() - 1, 1), 59);
         due.is("pairs() of very many", all.pairs(), -1);
@@ -188,7 +212,7 @@ public final class BitsTest {
     }
 
     private static void wrongInputs() {
-        NightDots sky = Skies.wanderer();
+        Sky sky = Skies.wanderer();
         for (int wild : Skies.WILD) {
             due.is("bit(" + wild + ", 0)", sky.bit(wild, 0), NightDots.NONE);
             due.is("bit(0, " + wild + ")", sky.bit(0, wild), NightDots.NONE);

@@ -14,7 +14,7 @@ public final class DotsTest {
     }
 
     private static void newObject() {
-        NightDots sky = new NightDots();
+        Sky sky = new Sky();
         int[] want = {0, 0, 0, 0, 10, 10, 10, 0};
         for (int what = 0; what < want.length; what++) {
             due.is("new count(" + what + ")", sky.count(what), want[what]);
@@ -28,7 +28,7 @@ public final class DotsTest {
     }
 
     private static void dotOrdinary() {
-        NightDots sky = new NightDots();
+        Sky sky = new Sky();
         due.is("first dot", sky.dot(30, 1, 2, 3), 0);
         due.is("second dot", sky.dot(31, 1, 2, 3), 1);
         due.is("other x", sky.dot(30, 2, 2, 3), 2);
@@ -41,7 +41,7 @@ public final class DotsTest {
     }
 
     private static void dotEdges() {
-        NightDots sky = new NightDots();
+        Sky sky = new Sky();
         due.is("least of all", sky.dot(0, -9000, -9000, 0), 0);
         due.is("greatest of all", sky.dot(400, 9000, 9000, 9), 1);
         due.is("hour -1", sky.dot(-1, 0, 0, 0), NightDots.BAD);
@@ -57,7 +57,7 @@ public final class DotsTest {
     }
 
     private static void dotFull() {
-        NightDots sky = new NightDots();
+        Sky sky = new Sky();
         for (int i = 0; i < 60; i++) {
             due.is("dot " + i, sky.dot(i, i, 0, 0), i);
         }
@@ -68,7 +68,7 @@ public final class DotsTest {
     }
 
     private static void pace() {
-        NightDots sky = new NightDots();
+        Sky sky = new Sky();
         due.is("pace(1)", sky.pace(1), 10);
         due.is("pace(20)", sky.pace(20), 1);
         due.is("pace(0)", sky.pace(0), NightDots.BAD);
@@ -81,7 +81,7 @@ public final class DotsTest {
     }
 
     private static void net() {
-        NightDots sky = new NightDots();
+        Sky sky = new Sky();
         due.is("net(1, 0)", sky.net(1, 0), 0);
         due.is("GRID", sky.count(5), 1);
         due.is("END", sky.count(6), 0);
@@ -96,7 +96,7 @@ public final class DotsTest {
     }
 
     private static void about() {
-        NightDots sky = new NightDots();
+        Sky sky = new Sky();
         sky.dot(47, -5, 6, 7);
         int[] want = {47, -5, 6, 7, 1, NightDots.NONE, NightDots.NONE};
         for (int what = 0; what < want.length; what++) {

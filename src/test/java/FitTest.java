@@ -5,8 +5,12 @@ public final class FitTest {
     public static void main(String[] args) {
         exactLine();
         fractions();
+        twoDots();
+        zeros();
         noLine();
+        oneHourButForOne();
         greatNumbers();
+        widestRows();
         wrongInputs();
         due.end();
     }
@@ -16,16 +20,16 @@ public final class FitTest {
         due.is(what + ", below", below, wantBelow);
     }
 
-    private static void dueFit(NightDots sky, int axis, int what, long top, long below) {
+    private static void dueFit(Sky sky, int axis, int what, long top, long below) {
         dueFraction("fit(0, " + axis + ", " + what + ")", sky.fit(0, axis, what, 0), sky.fit(0, axis, what, 1), top, below);
     }
 
-    private static void dueMiss(NightDots sky, int i, int axis, long top, long below) {
+    private static void dueMiss(Sky sky, int i, int axis, long top, long below) {
         dueFraction("miss(0, " + i + ", " + axis + ")", sky.miss(0, i, axis, 0), sky.miss(0, i, axis, 1), top, below);
     }
 
     private static void exactLine() {
-        NightDots sky = Skies.wanderer();
+        Sky sky = Skies.wanderer();
         sky.start(0, 7);
         sky.join(0, 4);
         dueFit(sky, 0, 0, 50, 1);
@@ -41,7 +45,7 @@ public final class FitTest {
 
     /** x: 0, 1, 1 at the HOURS 0, 1, 2: v = 1/2, p = 1/6; y: 0, -1, -1. */
     private static void fractions() {
-        NightDots sky = new NightDots();
+        Sky sky = new Sky();
         sky.dot(0, 0, 0, 0);
         sky.dot(1, 1, -1, 0);
         sky.dot(2, 1, -1, 0);
@@ -59,8 +63,57 @@ public final class FitTest {
         }
     }
 
+    /** Two HOURS are enough for a line, next to each other or as far apart as can be; it misses neither DOT. */
+    private static void twoDots() {
+        int[][] hours = {{0, 1}, {399, 400}, {0, 400}};
+        for (int[] two : hours) {
+            Sky sky = new Sky();
+            sky.dot(two[0], 0, 5, 0);
+            sky.dot(two[1], 7, -2, 0);
+            sky.single(0, 0);
+            sky.force(0, 1);
+            long apart = two[1] - two[0];
+            dueFit(sky, 0, 1, 7, apart);
+            dueFit(sky, 1, 1, -7, apart);
+            dueFit(sky, 0, 0, two[0] == 0 ? 0 : -7 * 399, 1);
+            dueFit(sky, 1, 0, two[0] == 0 ? 5 : 5 + 7 * 399, 1);
+            for (int i = 0; i < 4; i++) {
+                dueMiss(sky, i / 2, i % 2, 0, 1);
+            }
+        }
+    }
+
+    /** "(0 is 0 by 1)" */
+    private static void zeros() {
+        Sky sky = Skies.resting(8, 0);
+        for (int axis = 0; axis < 2; axis++) {
+            dueFit(sky, axis, 0, 0, 1);
+            dueFit(sky, axis, 1, 0, 1);
+            dueMiss(sky, 0, axis, 0, 1);
+            dueMiss(sky, 7, axis, 0, 1);
+        }
+        Sky even = new Sky();
+        even.dot(1, 4, -4, 0);
+        even.dot(3, 4, -4, 0);
+        even.dot(5, 7, -7, 0);
+        even.dot(5, 1, -1, 0);
+        even.single(0, 0);
+        for (int i = 1; i < 4; i++) {
+            even.join(0, i);
+        }
+        dueFit(even, 0, 0, 4, 1);
+        dueFit(even, 0, 1, 0, 1);
+        dueFit(even, 1, 0, -4, 1);
+        dueFit(even, 1, 1, 0, 1);
+        dueMiss(even, 0, 1, 0, 1);
+        for (int axis = 0; axis < 2; axis++) {
+            dueMiss(even, 2, axis, 3, 1);
+            dueMiss(even, 3, axis, 3, 1);
+        }
+    }
+
     private static void noLine() {
-        NightDots sky = new NightDots();
+        Sky sky = new Sky();
         sky.dot(9, 0, 0, 0);
         sky.dot(9, 1, 0, 0);
         sky.dot(9, 0, 1, 0);
@@ -74,7 +127,7 @@ public final class FitTest {
         due.is("of one HOUR, miss", sky.miss(0, 0, 0, 0), NightDots.NO);
         sky.join(0, 3);
         dueFit(sky, 0, 1, -1, 3);
-        NightDots empty = new NightDots();
+        Sky empty = new Sky();
         empty.dot(0, 2010, 0, 0);
         empty.single(0, 0);
         empty.net(10, 0);
@@ -83,9 +136,34 @@ public final class FitTest {
         due.is("miss of no DOTS", empty.miss(0, 0, 0, 0), NightDots.NO);
     }
 
+    /** "none, if all HOURS are one": of eight DOTS too, but not if one of them has another HOUR */
+    private static void oneHourButForOne() {
+        for (int last = 199; last <= 201; last++) {
+            Sky sky = new Sky();
+            sky.net(1, 200);
+            for (int i = 0; i < 7; i++) {
+                sky.dot(200, i, -i, 0);
+            }
+            sky.dot(last, 7, -7, 0);
+            sky.single(0, 0);
+            for (int i = 1; i < 8; i++) {
+                sky.join(0, i);
+            }
+            due.is("DOTS", sky.path(0, 1), 8);
+            for (int axis = 0; axis < 2; axis++) {
+                long speed = (axis == 0 ? 4 : -4) * (last - 200);
+                due.is("v", sky.fit(0, axis, 1, 0), last == 200 ? NightDots.NO : speed);
+                due.is("v, below", sky.fit(0, axis, 1, 1), last == 200 ? NightDots.NO : 1);
+                due.is("p", sky.fit(0, axis, 0, 0), last == 200 ? NightDots.NO : (axis == 0 ? 3 : -3) - 200 * speed);
+                due.is("miss", sky.miss(0, 0, axis, 0), last == 200 ? NightDots.NO : 3);
+                due.is("miss, below", sky.miss(0, 7, axis, 1), last == 200 ? NightDots.NO : 1);
+            }
+        }
+    }
+
     /** The line need not be of THE NET, nor the PATH SOUND. */
     private static void greatNumbers() {
-        NightDots sky = new NightDots();
+        Sky sky = new Sky();
         sky.dot(0, 0, 0, 0);
         sky.dot(400, 9000, -9000, 0);
         sky.dot(399, -9000, 9000, 0);
@@ -103,8 +181,35 @@ public final class FitTest {
         dueMiss(sky, 2, 0, 9000L * 159601 - 3595500 + 13500L * 399, 159601);
     }
 
+    /** Eight DOTS at the ends of all that is allowed, held against the Model's fractions of any size. */
+    private static void widestRows() {
+        int[][] hours = {{0, 0, 0, 0, 400, 400, 400, 400}, {393, 394, 395, 396, 397, 398, 399, 400},
+            {0, 400, 400, 400, 400, 400, 400, 400}, {0, 57, 113, 171, 229, 287, 349, 400}};
+        for (int[] row : hours) {
+            Sky sky = new Sky();
+            Model model = new Model();
+            for (int i = 0; i < row.length; i++) {
+                int x = i % 2 == 0 ? 9000 - i : i - 9000;
+                int y = i < 4 ? i - 9000 : 9000 - i;
+                due.is("dot", sky.dot(row[i], x, y, 0), model.dot(row[i], x, y, 0));
+            }
+            due.is("single", sky.single(7, 0), model.single(7, 0));
+            for (int i = 0; i < row.length; i++) {
+                due.is("force", sky.force(0, i), model.force(0, i));
+            }
+            due.is("DOTS", sky.path(0, 1), 8);
+            for (int ask = 0; ask < 32; ask++) {
+                int axis = ask % 2;
+                int part = ask / 2 % 2;
+                int i = ask / 4;
+                due.is("fit", sky.fit(0, axis, i % 2, part), model.fit(0, axis, i % 2, part));
+                due.is("miss", sky.miss(0, i, axis, part), model.miss(0, i, axis, part));
+            }
+        }
+    }
+
     private static void wrongInputs() {
-        NightDots sky = Skies.wanderer();
+        Sky sky = Skies.wanderer();
         sky.start(0, 7);
         for (int wild : Skies.WILD) {
             due.is("fit, path " + wild, sky.fit(wild, 0, 0, 0), NightDots.NO);

@@ -15,7 +15,7 @@ public final class HeapTest {
     }
 
     private static void heapOfOneDot() {
-        NightDots sky = new NightDots();
+        Sky sky = new Sky();
         sky.dot(0, 0, 0, 0);
         sky.single(0, 0);
         due.is("three starts by 41 speeds, twice", sky.heap(0), 123L * 123L);
@@ -26,7 +26,7 @@ public final class HeapTest {
         sky.net(1, 200);
         due.is("GRID 1, END 200", sky.heap(0), 401L * 41L * 401L * 41L);
         due.is("none", sky.heap(1), -1);
-        NightDots edge = new NightDots();
+        Sky edge = new Sky();
         edge.net(30, 200);
         edge.dot(0, 2000, -2000, 0);
         edge.single(0, 0);
@@ -37,7 +37,7 @@ public final class HeapTest {
     private static void heapLineByLine() {
         int[][] dots = {{10, 100, 50}, {12, 110, 46}, {40, 250, -10}};
         int[][] nets = {{50, 60}, {50, 10}, {43, 47}};
-        NightDots sky = new NightDots();
+        Sky sky = new Sky();
         for (int[] dot : dots) {
             sky.dot(dot[0], dot[1], dot[2], 0);
         }
@@ -76,18 +76,9 @@ public final class HeapTest {
         return found;
     }
 
-    /** A PATH whose only DOT has left it. */
-    private static NightDots emptied() {
-        NightDots sky = new NightDots();
-        sky.dot(0, 2010, 0, 0);
-        sky.single(0, 4);
-        sky.net(1, 0);
-        sky.part(0);
-        return sky;
-    }
-
     private static void heapOfAllTheNet() {
-        NightDots sky = emptied();
+        Sky sky = Skies.emptied(0);
+        sky.net(1, 0);
         due.is("all THE NET, GRID 1", sky.heap(0), 4001L * 41L * 4001L * 41L);
         due.is("AHEAD least", sky.ahead(0, 400, 0), -10000);
         due.is("AHEAD greatest", sky.ahead(0, 400, 1), 10000);
@@ -98,7 +89,7 @@ public final class HeapTest {
     }
 
     private static void ahead() {
-        NightDots sky = Skies.wanderer();
+        Sky sky = Skies.wanderer();
         sky.start(0, 7);
         long[] at70 = {390, 410, -80, -60};
         for (int what = 0; what < 4; what++) {
@@ -109,7 +100,7 @@ public final class HeapTest {
         due.is("ahead(0, -1, 0)", sky.ahead(0, -1, 0), NightDots.NO);
         due.is("ahead(0, 401, 0)", sky.ahead(0, 401, 0), NightDots.NO);
         due.is("ahead(1, 70, 0)", sky.ahead(1, 70, 0), NightDots.NO);
-        NightDots one = new NightDots();
+        Sky one = new Sky();
         one.dot(0, 0, 0, 0);
         one.single(0, 0);
         due.is("hour 0 least", one.ahead(0, 0, 0), -10);
@@ -122,7 +113,7 @@ public final class HeapTest {
 
     /** x fits, y does not: the HEAP is empty, so there is nothing AHEAD by either axis. */
     private static void aheadHangsOnTheNet() {
-        NightDots sky = new NightDots();
+        Sky sky = new Sky();
         sky.dot(0, 0, 0, 0);
         sky.dot(1, 0, 500, 0);
         sky.single(0, 0);
@@ -134,7 +125,7 @@ public final class HeapTest {
     }
 
     private static void tellOff() {
-        NightDots sky = Skies.wanderer();
+        Sky sky = Skies.wanderer();
         due.is("no PATHS", sky.tellOff(4), NightDots.NONE);
         sky.start(0, 7);
         due.is("tellOff(4)", sky.tellOff(4), 0);
@@ -152,7 +143,7 @@ public final class HeapTest {
     }
 
     private static void tellOffEdges() {
-        NightDots sky = Skies.wanderer();
+        Sky sky = Skies.wanderer();
         sky.start(0, 7);
         int[][] places = {{380, -90, 0}, {420, -50, 0}, {379, -70, -1}, {421, -70, -1}, {400, -91, -1}, {400, -49, -1}};
         for (int[] place : places) {
@@ -162,7 +153,7 @@ public final class HeapTest {
     }
 
     private static void wrongInputs() {
-        NightDots sky = Skies.wanderer();
+        Sky sky = Skies.wanderer();
         sky.start(0, 7);
         for (int wild : Skies.WILD) {
             due.is("heap(" + wild + ")", sky.heap(wild), -1);

@@ -15,7 +15,7 @@ public final class PartMergeTest {
     }
 
     /** Adds a DOT of a row by force; the first one makes the PATH. */
-    private static void put(NightDots sky, int hour, int x) {
+    private static void put(Sky sky, int hour, int x) {
         int dot = sky.dot(hour, x, 0, 0);
         if (dot == 0) {
             sky.single(dot, 6);
@@ -24,7 +24,7 @@ public final class PartMergeTest {
         }
     }
 
-    private static void dueRow(NightDots sky, int path, int... dots) {
+    private static void dueRow(Sky sky, int path, int... dots) {
         due.is("DOTS of PATH " + path, sky.path(path, 1), dots.length);
         for (int i = 0; i < dots.length; i++) {
             due.is("path(" + path + ", " + (10 + i) + ")", sky.path(path, 10 + i), dots[i]);
@@ -33,7 +33,7 @@ public final class PartMergeTest {
     }
 
     private static void partFewest() {
-        NightDots sky = new NightDots();
+        Sky sky = new Sky();
         put(sky, 0, 1000);
         put(sky, 1, 0);
         put(sky, 2, 0);
@@ -50,14 +50,14 @@ public final class PartMergeTest {
 
     /** Two of each kind: {0, 3} and {1, 2} both would do; the set that has place 0 leaves. */
     private static void partFirstInRow() {
-        NightDots sky = new NightDots();
+        Sky sky = new Sky();
         put(sky, 10, 500);
         put(sky, 11, 0);
         put(sky, 12, 0);
         put(sky, 13, 500);
         due.is("part of four", sky.part(0), 2);
         dueRow(sky, 0, 1, 2);
-        NightDots late = new NightDots();
+        Sky late = new Sky();
         late.dot(10, 500, 0, 0);
         late.dot(11, 0, 0, 0);
         late.single(1, 0);
@@ -65,7 +65,7 @@ public final class PartMergeTest {
         due.is("part of two", late.part(0), 1);
         dueRow(late, 0, 0);
         due.is("the first of the row is FREE", late.about(1, 5), NightDots.NONE);
-        NightDots three = new NightDots();
+        Sky three = new Sky();
         put(three, 10, 0);
         put(three, 11, 500);
         put(three, 12, 1000);
@@ -74,7 +74,7 @@ public final class PartMergeTest {
     }
 
     private static void partToNothing() {
-        NightDots sky = new NightDots();
+        Sky sky = new Sky();
         sky.dot(0, 2010, 0, 0);
         sky.dot(1, 2010, 0, 0);
         sky.dot(2, 0, 0, 0);
@@ -93,15 +93,18 @@ public final class PartMergeTest {
     }
 
     private static void partOfSoundOne() {
-        NightDots sky = Skies.wanderer();
+        Refusals refusals = new Refusals(due, PartMergeTest::started);
+        refusals.is("part of a SOUND one", sky -> sky.part(0), 0);
+    }
+
+    private static Sky started() {
+        Sky sky = Skies.wanderer();
         sky.start(0, 7);
-        String before = Skies.told(sky);
-        due.is("part of a SOUND one", sky.part(0), 0);
-        due.isTrue("nothing is changed, no act is kept", before.equals(Skies.told(sky)));
+        return sky;
     }
 
     private static void same() {
-        NightDots sky = Skies.wanderer();
+        Sky sky = Skies.wanderer();
         sky.start(0, 7);
         sky.single(4, 8);
         sky.single(5, 9);
@@ -119,7 +122,7 @@ public final class PartMergeTest {
     }
 
     private static void mergeOrder() {
-        NightDots sky = Skies.wanderer();
+        Sky sky = Skies.wanderer();
         sky.single(4, 8);
         sky.start(0, 7);
         due.is("merge(1, 0)", sky.merge(1, 0), 0);
@@ -130,7 +133,7 @@ public final class PartMergeTest {
         due.is("PATHS", sky.count(2), 1);
         due.is("FREE", sky.count(1), 1);
         due.is("merge again", sky.merge(0, 1), NightDots.NONE);
-        NightDots turned = Skies.wanderer();
+        Sky turned = Skies.wanderer();
         turned.single(4, 8);
         turned.start(0, 7);
         due.is("merge(0, 1)", turned.merge(0, 1), 0);
@@ -138,7 +141,7 @@ public final class PartMergeTest {
     }
 
     private static void mergeRefusals() {
-        NightDots sky = new NightDots();
+        Sky sky = new Sky();
         for (int i = 0; i < 10; i++) {
             sky.dot(i, 0, 0, 0);
         }
@@ -163,18 +166,16 @@ public final class PartMergeTest {
     }
 
     private static void wrongInputs() {
-        NightDots sky = Skies.wanderer();
-        sky.start(0, 7);
-        String before = Skies.told(sky);
+        Refusals refusals = new Refusals(due, PartMergeTest::started);
         for (int wild : Skies.WILD) {
-            due.is("part(" + wild + ")", sky.part(wild), NightDots.NONE);
-            due.is("same(" + wild + ", 0)", sky.same(wild, 0), NightDots.NONE);
-            due.is("same(0, " + wild + ")", sky.same(0, wild), NightDots.NONE);
-            due.is("merge(" + wild + ", 0)", sky.merge(wild, 0), NightDots.NONE);
-            due.is("merge(0, " + wild + ")", sky.merge(0, wild), NightDots.NONE);
+            refusals.is("part(" + wild + ")", sky -> sky.part(wild), NightDots.NONE);
+            refusals.is("same(" + wild + ", 0)", sky -> sky.same(wild, 0), NightDots.NONE);
+            refusals.is("same(0, " + wild + ")", sky -> sky.same(0, wild), NightDots.NONE);
+            refusals.is("merge(" + wild + ", 0)", sky -> sky.merge(wild, 0), NightDots.NONE);
+            refusals.is("merge(0, " + wild + ")", sky -> sky.merge(0, wild), NightDots.NONE);
         }
-        due.isTrue("refusals change nothing", before.equals(Skies.told(sky)));
-        sky.undo();
-        due.is("part of a GONE one", sky.part(0), NightDots.NONE);
+        Sky gone = started();
+        gone.undo();
+        due.is("part of a GONE one", gone.part(0), NightDots.NONE);
     }
 }

@@ -2,13 +2,16 @@ import java.util.ArrayDeque;
 import java.util.Deque;
 import java.util.Random;
 
-/** All promises: long runs of calls, the same ones each time, on NightDots and on the Model. */
+/**
+ * All promises: long runs of calls, the same ones each time, on NightDots and on the Model. What a
+ * call needs to be a likely one is asked of the Model alone: the calls of an object are counted.
+ */
 public final class RandomRunsTest {
     private static final int RUNS = 40;
-    private static final int CALLS = 400;
+    private static final int CALLS = 460;
 
     private final Random random;
-    private final NightDots sky = new NightDots();
+    private final Sky sky = new Sky();
     private final Model model = new Model();
     private final Deque<String> latest = new ArrayDeque<>();
     private final int[][] wanderers = new int[5][4];
@@ -92,16 +95,16 @@ public final class RandomRunsTest {
 
     /** A PATH; one that is GONE is mostly passed over. */
     private int pickPath() {
-        int path = pick(sky.count(3));
-        for (int i = 0; i < 4 && sky.path(path, 3) == 1; i++) {
-            path = pick(sky.count(3));
+        int path = pick(model.count(3));
+        for (int i = 0; i < 4 && model.path(path, 3) == 1; i++) {
+            path = pick(model.count(3));
         }
         return path;
     }
 
     private void change(int kind) {
         int path = pickPath();
-        int dot = pick(sky.count(0));
+        int dot = pick(model.count(0));
         int name = pick(1000);
         if (kind < 1) {
             newDot();
@@ -109,15 +112,15 @@ public final class RandomRunsTest {
             int[] values = {pick(401), pick(18001) - 9000, pick(18001) - 9000, pick(10)};
             dot(values[0], values[1], values[2], values[3]);
         } else if (kind < 3) {
-            int old = Math.max(0, Math.min(dot, sky.count(0) - 1));
-            dot(sky.about(old, 0), sky.about(old, 1), sky.about(old, 2), pick(10));
+            int old = Math.max(0, Math.min(dot, model.count(0) - 1));
+            dot(model.about(old, 0), model.about(old, 1), model.about(old, 2), pick(10));
         } else if (kind < 4) {
             int p = pick(21);
             same("pace(" + p + ")", sky.pace(p), model.pace(p));
         } else if (kind < 6) {
             changeNet();
         } else if (kind < 10) {
-            int i = pick(sky.pairs());
+            int i = pick(model.pairs());
             same("start(" + i + ", " + name + ")", sky.start(i, name), model.start(i, name));
         } else if (kind < 13) {
             same("single(" + dot + ", " + name + ")", sky.single(dot, name), model.single(dot, name));
@@ -125,7 +128,7 @@ public final class RandomRunsTest {
             int near = random.nextInt(3) == 0 ? dot : fittingDot(path, dot);
             same("join(" + path + ", " + near + ")", sky.join(path, near), model.join(path, near));
         } else if (kind < 25) {
-            int bit = pick(sky.bits());
+            int bit = pick(model.bits());
             same("joinBit(" + path + ", " + bit + ")", sky.joinBit(path, bit), model.joinBit(path, bit));
         } else {
             changeMore(kind, path, dot);
@@ -145,11 +148,11 @@ public final class RandomRunsTest {
         }
     }
 
-    /** A FREE DOT that is TOLD OFF to the PATH, if there is one. */
+    /** One of some DOTS that is TOLD OFF to the PATH, if there is one. */
     private int fittingDot(int path, int from) {
-        for (int i = 0; i < sky.count(0); i++) {
-            int dot = Math.floorMod(from + i, sky.count(0));
-            if (sky.tellOff(dot) == path) {
+        for (int i = 0; i < Math.min(12, model.count(0)); i++) {
+            int dot = Math.floorMod(from + i, model.count(0));
+            if (model.tellOff(dot) == path) {
                 return dot;
             }
         }
@@ -192,20 +195,20 @@ public final class RandomRunsTest {
     }
 
     private void askSky(int kind) {
-        int dot = pick(sky.count(0));
+        int dot = pick(model.count(0));
         if (kind < 80) {
             int what = random.nextInt(3) == 0 ? pick(6) : 5;
             same("about(" + dot + ", " + what + ")", sky.about(dot, what), model.about(dot, what));
         } else if (kind < 83) {
             same("bits()", sky.bits(), model.bits());
         } else if (kind < 87) {
-            int i = pick(sky.bits());
+            int i = pick(model.bits());
             int what = pick(2);
             same("bit(" + i + ", " + what + ")", sky.bit(i, what), model.bit(i, what));
         } else if (kind < 89) {
             same("pairs()", sky.pairs(), model.pairs());
         } else if (kind < 91) {
-            int i = pick(sky.pairs());
+            int i = pick(model.pairs());
             int what = pick(2);
             same("pair(" + i + ", " + what + ")", sky.pair(i, what), model.pair(i, what));
         } else if (kind < 95) {

@@ -16,51 +16,37 @@ public final class UndoTest {
         due.end();
     }
 
-    /** Where the DOTS are, and the rows of all PATHS that are not GONE. */
-    private static String withoutGone(NightDots sky) {
-        StringBuilder all = new StringBuilder();
-        for (int dot = 0; dot < sky.count(0); dot++) {
-            all.append(sky.about(dot, 5)).append(' ');
-        }
-        for (int path = 0; path < sky.count(3); path++) {
-            for (int what = 0; what < 18 && sky.path(path, 3) == 0; what++) {
-                all.append(path).append(':').append(sky.path(path, what)).append(' ');
-            }
-        }
-        return all.toString();
-    }
-
     private static void eachKind() {
-        NightDots sky = Skies.wanderer();
+        Sky sky = Skies.wanderer();
         doAndTakeBack(sky, new int[] {0, 1, 0, 6, 1, 2}, () -> sky.single(4, 2), () -> sky.start(0, 1),
                 () -> sky.merge(1, 0), () -> sky.force(0, 5), () -> sky.part(0), () -> sky.single(5, 3));
-        NightDots other = Skies.wanderer();
+        Sky other = Skies.wanderer();
         doAndTakeBack(other, new int[] {0, 3, 4, 5}, () -> other.single(4, 2), () -> other.joinBit(0, 0),
                 () -> other.join(0, 2), () -> other.join(0, 3));
-        NightDots mixed = Skies.wanderer();
+        Sky mixed = Skies.wanderer();
         doAndTakeBack(mixed, new int[] {0, 2, 3, 4, 5, 1}, () -> mixed.single(0, 2), () -> mixed.force(0, 5),
                 () -> mixed.force(0, 1), () -> mixed.force(0, 2), () -> mixed.force(0, 3), () -> mixed.part(0));
     }
 
     /** Does all acts, then takes all back, one by one. */
-    private static void doAndTakeBack(NightDots sky, int[] answers, IntSupplier... acts) {
+    private static void doAndTakeBack(Sky sky, int[] answers, IntSupplier... acts) {
         List<String> states = new ArrayList<>();
         for (int i = 0; i < acts.length; i++) {
-            states.add(withoutGone(sky));
+            states.add(Told.rows(sky));
             due.is("act " + i, acts[i].getAsInt(), answers[i]);
             due.is("acts", sky.count(7), i + 1);
         }
         for (int i = acts.length - 1; i >= 0; i--) {
             due.is("undo()", sky.undo(), i);
             due.is("acts", sky.count(7), i);
-            String is = withoutGone(sky);
+            String is = Told.rows(sky);
             due.isTrue("state before act " + i + " was " + states.get(i) + ", is " + is, is.equals(states.get(i)));
         }
         due.is("undo() of none", sky.undo(), NightDots.STATE);
     }
 
     private static void thirtyAreKept() {
-        NightDots sky = new NightDots();
+        Sky sky = new Sky();
         for (int i = 0; i < 48; i++) {
             sky.dot(i, 0, 0, 0);
         }
@@ -84,7 +70,7 @@ public final class UndoTest {
     }
 
     private static void whatEndsIt() {
-        NightDots sky = Skies.wanderer();
+        Sky sky = Skies.wanderer();
         sky.start(0, 7);
         sky.join(0, 4);
         sky.pace(3);
@@ -103,7 +89,7 @@ public final class UndoTest {
     }
 
     private static void goneForGood() {
-        NightDots sky = Skies.wanderer();
+        Sky sky = Skies.wanderer();
         sky.start(0, 7);
         sky.undo();
         int[] want = {7, 0, 0, 1};
@@ -125,7 +111,7 @@ public final class UndoTest {
 
     /** What was known of an act that was taken back does not cling to the one that comes in its stead. */
     private static void anotherInItsStead() {
-        NightDots sky = Skies.wanderer();
+        Sky sky = Skies.wanderer();
         sky.single(0, 1);
         sky.single(1, 2);
         sky.undo();
@@ -143,7 +129,7 @@ public final class UndoTest {
     }
 
     private static void count() {
-        NightDots sky = Skies.wanderer();
+        Sky sky = Skies.wanderer();
         sky.start(0, 7);
         sky.single(4, 8);
         sky.merge(0, 1);
