@@ -8,6 +8,7 @@ import java.util.Random;
  */
 public final class RandomRunsTest {
     private static final int RUNS = 40;
+    private static final int FAR_RUNS = 20;
     private static final int CALLS = 460;
 
     private final Random random;
@@ -17,20 +18,49 @@ public final class RandomRunsTest {
     private final int[][] wanderers = new int[5][4];
     private boolean isRight = true;
 
-    private RandomRunsTest(long seed) {
+    /** Far: the wanderers are about the ends of THE NET and are seen in all HOURS. */
+    private final boolean isFar;
+
+    private RandomRunsTest(long seed, boolean isFar) {
         random = new Random(seed);
+        this.isFar = isFar;
         for (int[] line : wanderers) {
-            line[0] = 10 * random.nextInt(-40, 41);
-            line[1] = random.nextInt(-6, 7);
-            line[2] = 10 * random.nextInt(-40, 41);
-            line[3] = random.nextInt(-6, 7);
+            line[0] = start();
+            line[1] = speed();
+            line[2] = start();
+            line[3] = speed();
         }
+    }
+
+    private int start() {
+        if (!isFar) {
+            return 10 * random.nextInt(-40, 41);
+        }
+        return random.nextInt(3) == 0 ? random.nextInt(-2100, 2101) : random.nextInt(1950, 2060) * side();
+    }
+
+    private int speed() {
+        if (!isFar) {
+            return random.nextInt(-6, 7);
+        }
+        return random.nextBoolean() ? random.nextInt(-17, 18) : random.nextInt(16, 18) * side();
+    }
+
+    private int hour() {
+        if (!isFar) {
+            return random.nextInt(0, 120);
+        }
+        return random.nextInt(3) == 0 ? random.nextInt(0, 401) : random.nextInt(4) * 100 + random.nextInt(8);
+    }
+
+    private int side() {
+        return random.nextBoolean() ? 1 : -1;
     }
 
     public static void main(String[] args) {
         Due due = new Due();
-        for (int run = 0; run < RUNS && due.wrong() == 0; run++) {
-            RandomRunsTest test = new RandomRunsTest(run);
+        for (int run = 0; run < RUNS + FAR_RUNS && due.wrong() == 0; run++) {
+            RandomRunsTest test = new RandomRunsTest(run, run >= RUNS);
             due.isTrue("random run " + run, test.run());
         }
         due.end();
@@ -70,7 +100,7 @@ public final class RandomRunsTest {
 
     private void newDot() {
         int[] line = wanderers[random.nextInt(wanderers.length)];
-        int hour = random.nextInt(0, 120);
+        int hour = hour();
         int noise = random.nextInt(3) == 0 ? 40 : 8;
         int x = line[0] + line[1] * hour + random.nextInt(-noise, noise + 1);
         int y = line[2] + line[3] * hour + random.nextInt(-noise, noise + 1);
